@@ -76,6 +76,9 @@ final class QueriesTest {
 
     private static void shapes() {
         of("((all))", 8, 1, 0, 0, 7, 1, 0, 1);
+        // As many parts wait at once as a text of 100 bytes has room for.
+        of("all or all and (all or all and (all or all and (all or all and (all or all and (all and all)))))",
+                8, 1, 11 * 2, 0, 7, 12, 0, 12);
         of("not not not all", 0, 1, 0, -5, -5, 1, 3, 4);
         of("all or not not all and all", 8, 1, 0 + (0 + 0 + 1 + 1) + 1 + 1, 0, 7, 3, 2, 5);
         RunColumns x = eight();
@@ -176,6 +179,7 @@ final class QueriesTest {
         edge("not a is 0", 0, 1, 9, 4, 3, 1);
         edge("b is 7", 1, 7, 7, 7, 1, 7);
         edge("a is 2", 1, -5, -5, -5, 0, -5);
+        edge("b is 0", 1, 0, 0, 0, 1, 0);
         edge("b in 2..3", 1, 2, 3, 2, 2, 2);
         edge("d in 1..2 and b in 1..2", 3, 1, 2, 1, 2, 1);
     }

@@ -96,6 +96,10 @@ final class RowsTest {
         T.due("its value", x.at(2, 3), 4);
         T.due("no bit of the old one stays", x.runs(0, 3), 1);
         T.due("nor of its slices", x.run(0, 16, 1), 2);
+        x.add(0, 0, 0, 0);
+        x.back(1);
+        x.add(9, 9, 9, 9);
+        T.due("a 0 that is no more is none", x.run(0, 0, 0), 3);
         T.due("back(0)", x.back(0), 3);
         T.due("no rows", x.count(0), 0);
         T.due("mark 0 stays", x.count(1), 1);

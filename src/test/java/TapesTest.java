@@ -9,6 +9,7 @@ final class TapesTest {
         judgeWithoutRows();
         judgeWrong();
         image();
+        imageOfMarks();
         imageOfAll();
         taken();
         count();
@@ -103,7 +104,26 @@ final class TapesTest {
         T.due("undo() again", x.undo(), 2);
         T.due("the rows are as then", x.at(1, 0), 3);
         T.due("and no more", x.at(2, 0), -1);
+        x.add(0, 0, 0, 0);
+        x.undo();
+        x.add(1, 1, 1, 1);
+        T.due("no bit of a 0 stays", x.run(0, 0, 0), 3);
+        x.undo();
         T.due("nor their bits", x.runs(0, 5), 1);
+    }
+
+    private static void imageOfMarks() {
+        RunColumns x = three();
+        x.mark();
+        x.add(1, 1, 1, 1);
+        x.mark();
+        x.image();
+        x.back(0);
+        x.mark();
+        T.due("undo()", x.undo(), 4);
+        T.due("marks", x.count(1), 2);
+        T.due("mark 1 tells on what it did", x.back(1), 0);
+        T.due("and mark 0", x.back(0), 1);
     }
 
     private static void imageOfAll() {

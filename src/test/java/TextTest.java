@@ -39,6 +39,11 @@ final class TextTest {
         T.due("a fault", Due.query(x, "a iz 1"), -12);
         T.due("is no query", x.count(2), 1);
         T.due("a second", Due.query(x, "not all"), 1);
+        T.due("a fault behind good parts", Due.query(x, "not all and (not all or not"), -37);
+        T.due("a third", Due.query(x, "all"), 2);
+        T.due("nothing stays of the parts: is, below, in, all", x.of(2, 5), 1);
+        T.due("nor of the nots", x.of(2, 6), 0);
+        T.due("the second is as it was", x.of(1, 6), 1);
     }
 
     private static void full() {
@@ -70,6 +75,10 @@ final class TextTest {
         fault("no", 0);
         fault("nota", 0);
         fault("ab is 1", 0);
+        fault("az is 1", 0);
+        fault("allz", 0);
+        fault("bll", 0);
+        fault("cot all", 0);
         fault("ais 1", 0);
         fault(")", 0);
         fault("a", 1);
@@ -81,6 +90,9 @@ final class TextTest {
         fault("a  is 1", 2);
         fault("a i", 2);
         fault("a isx 1", 2);
+        fault("a as 1", 2);
+        fault("a an 1", 2);
+        fault("a zelow 1", 2);
         fault("a or", 2);
         fault("a all", 2);
         fault("a 1", 2);
@@ -150,6 +162,9 @@ final class TextTest {
         fault("(all) all", 6);
         fault("(all) ", 6);
         fault("all all", 4);
+        fault("all ar all", 4);
+        fault("all ond all", 4);
+        fault("all orz all", 4);
         fault("all1", 3);
         fault("all(", 3);
         fault("all  ", 4);
