@@ -1,11 +1,17 @@
 /** Counts the answers of one test class and tells each that is not the one that is due. */
 final class Due {
     private final String name;
+    private String sentence = "";
     private int passed = 0;
     private int failed = 0;
 
     Due(String name) {
         this.name = name;
+    }
+
+    /** What follows tests this sentence of ../shared/DOC.md, word by word as it stands there (SentencesTest looks). */
+    void sentence(String words) {
+        sentence = words;
     }
 
     void due(String call, long got, long want) {
@@ -14,6 +20,9 @@ final class Due {
         } else {
             failed++;
             System.out.println(name + ": " + call + " answered " + got + ", due is " + want);
+            if (!sentence.isEmpty()) {
+                System.out.println("    by the sentence: " + sentence);
+            }
         }
     }
 

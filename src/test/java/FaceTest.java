@@ -40,7 +40,9 @@ final class FaceTest {
         t.due("BAD", RunColumns.BAD, -2);
         t.due("STATE", RunColumns.STATE, -3);
         t.due("FULL", RunColumns.FULL, -4);
+        t.sentence("The constants: `NO = Long.MIN_VALUE`: There is no such number.");
         t.due("NO", RunColumns.NO, Long.MIN_VALUE);
+        t.due("NO is answered", new RunColumns().read(0, 0), Long.MIN_VALUE);
         t.end();
     }
 
