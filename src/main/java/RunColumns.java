@@ -895,7 +895,7 @@ public final class RunColumns {
 
     /** THE TEXT, and how a query is read from it. */
     private static final class Reader {
-        private static final int NO_FAULT = -1, NO_SIGN = -1, NO_SORT = -1, NO_COLUMN = -1;
+        private static final int NO_FAULT = -1, NO_SIGN = -1, NO_COLUMN = -1;
 
         private final byte[] signs = new byte[MOST_TEXT];
         int length = 0;
@@ -967,14 +967,20 @@ public final class RunColumns {
         private void readQuestion(Query query) {
             int column = passColumn();
             pass(' ');
-            int sort = passSort();
+            boolean isIs = isWordAt(place, "is");
+            boolean isBelow = isWordAt(place, "below");
+            if (!isIs && !isBelow && !isWordAt(place, "in")) {
+                blame(place);
+                return;
+            }
+            passWord(isIs ? "is" : isBelow ? "below" : "in");
             pass(' ');
             int first = passValue();
-            if (sort == IS) {
+            if (isIs) {
                 query.appendLeaf(IS, column, first, first);
-            } else if (sort == BELOW) {
+            } else if (isBelow) {
                 query.appendLeaf(BELOW, column, 0, first - 1);
-            } else if (sort == IN) {
+            } else {
                 pass('.');
                 pass('.');
                 query.appendLeaf(IN, column, first, passValue());
@@ -989,23 +995,6 @@ public final class RunColumns {
             }
             place++;
             return sign - 'a';
-        }
-
-        private int passSort() {
-            if (isWordAt(place, "is")) {
-                passWord("is");
-                return IS;
-            }
-            if (isWordAt(place, "below")) {
-                passWord("below");
-                return BELOW;
-            }
-            if (isWordAt(place, "in")) {
-                passWord("in");
-                return IN;
-            }
-            blame(place);
-            return NO_SORT;
         }
 
         private int passValue() {
